@@ -4,6 +4,7 @@ public final class AllTests {
 
     public static void main(String[] arguments) {
         FaceTest.run();
+        LanguageTest.run();
         ToldTest.run();
         CatalogueTest.run();
         PeriodsTest.run();

@@ -57,19 +57,25 @@ final class Check {
         index(what, () -> call.answer() ? 1 : 0);
     }
 
-    /** The class must be the very one: what the machine throws is often of a class below it. */
+    /** The class must be the very one, and thrown by LightcurveHouse, neither by the machine nor by the library. */
     private static void needs(String what, Class<?> due, Call call) {
         try {
             long got = call.answer();
             wrong(what + " answered " + got + ", due is " + due.getSimpleName());
         } catch (RuntimeException e) {
-            if (e.getClass() != due) {
+            if (e.getClass() != due || !isThrownByHouse(e)) {
                 wrong(what + " threw " + e + ", due is " + due.getSimpleName());
             }
         }
     }
 
-    /** Calls that must throw of an argument just outside of a range, or far outside. */
+    /** Of exceptions whose class is the due one: what an ArrayList throws bears the same class as what is due. */
+    static boolean isThrownByHouse(Throwable e) {
+        StackTraceElement[] trace = e.getStackTrace();
+        return trace.length > 0 && trace[0].getClassName().startsWith("LightcurveHouse");
+    }
+
+    /** Values just outside of a range, and far outside. */
     static int[] outside(int least, int most) {
         return new int[] {least - 1, most + 1, Integer.MIN_VALUE, Integer.MAX_VALUE};
     }
