@@ -10,7 +10,18 @@ public final class AllTests {
         PeriodsTest.run();
         ClassesTest.run();
         LadderTest.run();
+        boundaries();
         RandomRunsTest.run();
         Check.end();
+    }
+
+    private static void boundaries() {
+        BoundaryTermsTest.run();
+        BoundaryToldTest.run();
+        BoundaryCatalogueTest.run();
+        BoundaryPeriodsTest.run();
+        BoundaryClassesTest.run();
+        BoundaryLadderTest.run();
+        Check.test("each sentence of the document is named by a test", Document::findUnnamed);
     }
 }
