@@ -173,6 +173,9 @@ final class BoundaryPeriodsTest {
             Check.due(what, x.aliases(0, 90, 100, 10, row[2]), row[3]);
             Check.due(what + ", and twice the best string", x.aliases(0, 90, 110, 10, row[2]), row[3] + 1);
         }
+        LightcurveHouse y = Scenes.four(0, 40, 70, 21);
+        Check.due("of a string 178 to 140, 127 percent are 177.8", y.aliases(0, 90, 100, 10, 27), 0);
+        Check.due("of a string 178 to 140, 128 percent are 179.2", y.aliases(0, 90, 100, 10, 28), 1);
         LightcurveHouse x = Scenes.house(ALIKE);
         Check.due("all of string 0", x.aliases(0, 30, 229, 1, 0), 199);
         Check.due("all of string 0", x.aliases(0, 30, 229, 1, 50), 199);

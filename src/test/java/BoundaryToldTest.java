@@ -380,12 +380,12 @@ final class BoundaryToldTest {
             raw(9, 5, 1, 3, 800);
         });
         Sentence.test(8, "ahead: 0 to 9: A", () -> {
-            Refusals.arguments(Scenes.FEW, "ahead", 0, 9, (x, v) -> x.step(0, 0, 0, 0, v, 1, 1));
+            Refusals.arguments(Scenes.FEW, "ahead", 0, 9, (x, v) -> x.step(0, 0, 0, 0, v, 5, 1));
             raw(0, 9, 0, 1, 0);
             raw(0, 9, 9, 1, 810);
         });
         Sentence.test(8, "behind: 0 to 9: B", () -> {
-            Refusals.arguments(Scenes.FEW, "behind", 0, 9, (x, v) -> x.step(0, 0, 0, 0, 1, v, 1));
+            Refusals.arguments(Scenes.FEW, "behind", 0, 9, (x, v) -> x.step(0, 0, 0, 0, 5, v, 1));
             raw(0, 9, 1, 0, 900);
             raw(0, 9, 1, 9, 90);
         });
@@ -434,8 +434,8 @@ final class BoundaryToldTest {
                 + "both 0, or the COMPARISONS are the same", () -> {
             for (List<Scenes.CallOf> scene : Scenes.SOME) {
                 Refusals.outOfRange(scene, "minute", 0, 9999999, (x, v) -> x.step(0, 0, v, 0, 1, 1, 1));
-                Refusals.outOfRange(scene, "ahead", 0, 9, (x, v) -> x.step(0, 0, 0, 0, v, 1, 1));
-                Refusals.outOfRange(scene, "behind", 0, 9, (x, v) -> x.step(0, 0, 0, 0, 1, v, 1));
+                Refusals.outOfRange(scene, "ahead", 0, 9, (x, v) -> x.step(0, 0, 0, 0, v, 5, 1));
+                Refusals.outOfRange(scene, "behind", 0, 9, (x, v) -> x.step(0, 0, 0, 0, 5, v, 1));
                 Refusals.argument(scene, "both 0", x -> x.step(0, 0, 0, 0, 0, 0, 1));
                 Refusals.argument(scene, "ahead out of its range, together 0", x -> x.step(0, 0, 0, 0, -1, 1, 1));
                 Refusals.argument(scene, "behind out of its range, together 0", x -> x.step(0, 0, 0, 0, 9, -9, 1));

@@ -2,8 +2,9 @@ import java.util.ArrayList;
 import java.util.List;
 
 /**
- * What a house answers after it was told a scene, by reading calls and by telling ones. It comes in parts, each
- * of another house, since a house is used for at most 512 calls.
+ * What a house answers after it was told a scene, by reading calls and by telling ones: one more of everything
+ * is asked for than can be there. It comes in parts, each of another house, since a house is used for at most
+ * 512 calls.
  */
 final class Portrait {
     private static final int MOST_CALLS = 512, PARTS = 8;
@@ -46,8 +47,8 @@ final class Portrait {
 
     private void askPart(int part) {
         switch (part) {
-            case 0 -> looks(0, 40);
-            case 1 -> looks(40, 80);
+            case 0 -> looks(0, 41);
+            case 1 -> looks(41, 81);
             case 2 -> entries();
             case 3 -> features();
             case 4 -> minima();
@@ -131,7 +132,7 @@ final class Portrait {
             ask(y -> y.modulus(number));
         }
         ask(y -> y.zero(3));
-        for (int i = 0; i < 80; i++) {
+        for (int i = 0; i < 81; i++) {
             int look = i;
             ask(y -> Scenes.bit(y.doubt(look, false)));
         }
@@ -142,7 +143,7 @@ final class Portrait {
         for (int i = 0; i < 13; i++) {
             ask(y -> y.star(5));
             ask(y -> y.plate(50, 600, 7));
-            ask(y -> y.rule(1, PERIOD_OF_RULES, 0, 900, 1));
+            ask(y -> y.rule(1, LightcurveHouse.PERIOD, 0, 900, 1));
         }
         for (int i = 0; i < 31; i++) {
             int minute = i * 3;
@@ -159,6 +160,4 @@ final class Portrait {
             ask(y -> y.mean(star));
         }
     }
-
-    private static final int PERIOD_OF_RULES = LightcurveHouse.PERIOD;
 }

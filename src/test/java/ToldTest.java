@@ -210,8 +210,8 @@ final class ToldTest {
             Check.index("first comparison " + wrong, () -> x.step(0, 0, -1, wrong, 1, 1, 1));
             Check.index("second comparison " + wrong, () -> x.step(0, 0, -1, 1, 1, 1, wrong));
             Check.index("both comparisons " + wrong, () -> x.step(0, 0, 0, wrong, 1, 1, wrong));
-            Check.argument("ahead " + wrong, () -> x.step(0, 0, 0, 0, wrong, 1, 1));
-            Check.argument("behind " + wrong, () -> x.step(0, 0, 0, 0, 1, wrong, 1));
+            Check.argument("ahead " + wrong, () -> x.step(0, 0, 0, 0, wrong, 5, 1));
+            Check.argument("behind " + wrong, () -> x.step(0, 0, 0, 0, 5, wrong, 1));
         }
         for (int wrong : Check.outside(0, 9999999)) {
             Check.argument("minute " + wrong, () -> x.step(0, 0, wrong, 0, 1, 1, 1));
