@@ -873,11 +873,11 @@ public final class LightcurveHouse {
             size++;
         }
 
-        /** By halves, since rows are made anew for each of many trials; each turn lessens the range looked at. */
+        /** By halves, since rows are made anew for each of many trials; that takes no more turns than there are keys. */
         private int placeBehind(int key) {
             int low = 0;
             int high = size;
-            while (low < high) {
+            for (int turn = 0; turn < size && low < high; turn++) {
                 int middle = (low + high) / 2;
                 if (keys[middle] <= key) {
                     low = middle + 1;

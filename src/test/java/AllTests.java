@@ -5,6 +5,8 @@ public final class AllTests {
     public static void main(String[] arguments) {
         FaceTest.run();
         LanguageTest.run();
+        RoomTest.run();
+        ReadmeTest.run();
         ToldTest.run();
         CatalogueTest.run();
         PeriodsTest.run();

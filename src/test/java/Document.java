@@ -1,7 +1,9 @@
 import java.io.IOException;
 import java.nio.file.Files;
 import java.nio.file.Path;
+import java.util.ArrayList;
 import java.util.Arrays;
+import java.util.List;
 import java.util.Map;
 import java.util.TreeMap;
 import java.util.regex.Matcher;
@@ -49,24 +51,42 @@ final class Document {
         }
     }
 
-    private static Map<Integer, String> read() {
-        Map<Integer, String> texts = new TreeMap<>();
-        try {
-            int promise = 0;
-            boolean isCode = false;
-            for (String line : Files.readAllLines(PATH)) {
-                if (line.equals("## Not promised")) {
-                    break;
-                }
-                Matcher heading = HEADING.matcher(line);
-                promise = heading.matches() ? Integer.parseInt(heading.group(1)) : promise;
-                isCode = line.startsWith("```") ? !isCode : isCode;
-                if (!isCode && !isNoSentence(line)) {
-                    texts.merge(promise, plain(promise, line) + "\n", String::concat);
-                }
+    /** The lines of the public face, from that of the class on, without their ends. */
+    static List<String> face() {
+        List<String> face = new ArrayList<>();
+        boolean isCode = false;
+        for (String line : lines()) {
+            isCode = line.startsWith("```") ? !isCode : isCode;
+            if (isCode && line.strip().startsWith("public ")) {
+                face.add(line.strip().replaceFirst(" ?[;{]$", ""));
             }
+        }
+        return face;
+    }
+
+    private static List<String> lines() {
+        try {
+            return Files.readAllLines(PATH);
         } catch (IOException e) {
             System.out.println("cannot read " + PATH);
+            return List.of();
+        }
+    }
+
+    private static Map<Integer, String> read() {
+        Map<Integer, String> texts = new TreeMap<>();
+        int promise = 0;
+        boolean isCode = false;
+        for (String line : lines()) {
+            if (line.equals("## Not promised")) {
+                break;
+            }
+            Matcher heading = HEADING.matcher(line);
+            promise = heading.matches() ? Integer.parseInt(heading.group(1)) : promise;
+            isCode = line.startsWith("```") ? !isCode : isCode;
+            if (!isCode && !isNoSentence(line)) {
+                texts.merge(promise, plain(promise, line) + "\n", String::concat);
+            }
         }
         return texts;
     }

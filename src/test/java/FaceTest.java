@@ -51,6 +51,25 @@ final class FaceTest {
         Check.test("face: constants", FaceTest::constants);
         Check.test("face: methods", FaceTest::methods);
         Check.test("face: nothing else is visible", FaceTest::nothingElse);
+        Check.test("face: the document's, word for word and in its order", FaceTest::asTheDocumentHasIt);
+    }
+
+    /** With the names of the arguments, which the compiled class does not tell. */
+    private static void asTheDocumentHasIt() {
+        List<String> face = Document.face();
+        Check.due("lines of the face", face.size(), 36);
+        String source = Source.text().replaceAll("\\s+", " ");
+        int from = 0;
+        for (String line : face) {
+            String due = line.endsWith(")") || line.contains(" class ") || line.contains(" throws ") ? line + " {" : line + ";";
+            int at = source.indexOf(due, from);
+            if (at < 0) {
+                Check.wrong("the source does not go on with: " + due);
+            } else {
+                from = at + due.length();
+            }
+        }
+        Check.due("public things in the source", source.split("\\bpublic ", -1).length - 1, face.size());
     }
 
     private static void constants() {
