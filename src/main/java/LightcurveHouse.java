@@ -873,7 +873,7 @@ public final class LightcurveHouse {
             size++;
         }
 
-        /** By halves, since rows are made anew for each of many trials; that takes no more turns than there are keys. */
+        /** By halves, since rows are made anew for each of many trials; it never takes more turns than keys. */
         private int placeBehind(int key) {
             int low = 0;
             int high = size;
